@@ -74,8 +74,8 @@ public final class SagaRuns {
     private static final int JOBS_ROOM = WORKFLOWS * JOB_LIMIT;
     private static final int ATTEMPTS_ROOM = JOBS_ROOM * TRIES_LIMIT;
 
-    // A workflow begins and ends each of its steps once and then asks for one job to take back at
-    // the most before time must pass: this stands far above that.
+    // A workflow begins and ends each of its steps once at the most, and then ends or takes back
+    // until time must pass: this stands far above that.
     private static final int MOVE_BOUND = 10 * STEP_LIMIT;
 
     private final int[] settings = new int[SETTINGS_ROOM];
@@ -421,7 +421,8 @@ public final class SagaRuns {
         boolean moves = true;
         for (int n = 0; n < MOVE_BOUND && moves && flowState[i] == WAITING; n++) {
             if (takesBack[i]) {
-                moves = takeBack(i);
+                takeBack(i);
+                moves = false;
             } else if (isInStep[i]) {
                 moves = endStep(i);
             } else {
@@ -613,24 +614,22 @@ public final class SagaRuns {
         flowStep[i]++;
     }
 
-    /** Goes on with the pile of workflow i, which failed; answers false if it must wait on. */
-    private boolean takeBack(int i) {
+    /** Goes on with the pile of workflow i, which failed; then it has ended or waits for a job. */
+    private void takeBack(int i) {
         int j = awaitedJob[i];
         int outcome = j == NO_JOB ? SUCCEEDED : jobOutcome[j];
-        if (outcome == NOT_OVER) {
-            return false;
-        }
         if (outcome == FAILED) {
             flowState[i] = STUCK;
-        } else if (pileSize[i] == 0) {
-            flowState[i] = UNDONE;
-        } else {
+        } else if (outcome == SUCCEEDED) {
             takeBackLast(i);
         }
-        return true;
     }
 
     private void takeBackLast(int i) {
+        if (pileSize[i] == 0) {
+            flowState[i] = UNDONE;
+            return;
+        }
         int place = i * STEP_LIMIT + pileSize[i] - 1;
         awaitedJob[i] = askFor(i, pileActivity[place], pileInput[place]);
         // A job that was one too many was not asked for: it stays on the pile.

@@ -200,6 +200,12 @@ public final class StepKindsTest {
         Runs.check("the input is that of the time when it was put on", """
             step 6 3 0 0 = 0; step 0 0 -1 0 = 1; step 12 0 0 0 = 2; start 0 55 = WAITING; job 0 1 = 55; job 0 0 = 3
             """);
+        Runs.check("kind 6 takes the variable that it names, of its own workflow", """
+            step 0 1 41 0 = 0; step 0 2 42 0 = 1; step 0 3 43 0 = 2; step 1 2 0 0 = 3; step 6 2 2 0 = 4
+            step 6 1 3 0 = 5; step 12 0 0 0 = 6; start 1 5 = WAITING; start 2 7 = WAITING; advance 1 = 1
+            job 0 0 = 1; job 0 1 = 43; job 1 0 = 1; job 1 1 = 43; job 2 0 = 2; job 2 1 = 47
+            advance 1 = 2; job 3 0 = 2; job 3 1 = 49; advance 1 = 3; state 1 = UNDONE; state 2 = UNDONE
+            """);
         Runs.check("taking back takes no signals and no steps", """
             step 6 0 0 0 = 0; step 12 0 0 0 = 1; step 10 0 1 5 = 2; start 0 1 = WAITING; signal 0 0 1 = WAITING
             signals 0 = 1; advance 1 = 1; state 0 = UNDONE; signals 0 = 1; variable 0 1 = 0
