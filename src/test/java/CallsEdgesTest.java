@@ -248,6 +248,10 @@ public final class CallsEdgesTest {
             signal 0 0 1 = WAITING; signal 0 0 1 = WAITING; signal 0 0 1 = WAITING; signal 0 0 1 = WAITING; signal 0 0 1 = WAITING
             signal 0 0 1 = WAITING; signal 0 0 1 = FULL; advance 100 = 100; jobs = 90; state 0 = BROKEN; state 2 = BROKEN; reset
             """, "start 0 1 = WAITING; advance 29 = 29; jobs = 30; signal 0 0 2 = WAITING; state 0 = WAITING");
+        Runs.check("9: steps that were done before it do not count", """
+            step 0 1 1 0 = 0; step 1 0 1 0 = 1; step 8 1 0 0 = 2; start 0 0 = BROKEN; variable 0 0 = 100; reset; start 0 0 = BROKEN
+            variable 0 0 = 100; start 1 0 = BROKEN; start 2 0 = BROKEN; reset; start 2 0 = BROKEN; variable 2 0 = 100
+            """);
         Runs.alike("9: an open handle is empty again", "step 4 0 0 0 = 0; step 4 0 0 1 = 1; step 4 0 0 2 = 2", """
             step 4 0 0 0 = 0; step 4 0 0 1 = 1; step 4 0 0 2 = 2; start 0 1 = DONE; start 1 1 = DONE; start 2 1 = DONE; jobs = 9; reset
             """, "start 0 1 = DONE; start 1 1 = DONE; start 2 1 = DONE; jobs = 9; advance 9 = 9; attempts = 9");

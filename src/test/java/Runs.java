@@ -1,14 +1,21 @@
 import java.lang.reflect.Method;
 import java.util.ArrayList;
 import java.util.List;
+import java.util.Map;
 
 /**
  * Runs of calls written as text, each on a new object. A line holds calls parted by ';', and a call
- * reads "name numbers = answer"; a number or an answer may be a constant of the class by its name.
+ * reads "name numbers = answer"; a number or an answer may be a constant by its name, or MIN or MAX.
  */
 final class Runs {
     /** What an object answers behind so many calls is free, so no test may rest on it. */
     private static final int MOST_CALLS = 512;
+    /** The constants as the document tells them, so that a wrong one in the class is seen. */
+    private static final Map<String, Integer> NAMED = Map.ofEntries(
+        Map.entry("BAD_ARG", -1), Map.entry("FULL", -2), Map.entry("BUSY", -3), Map.entry("NONE", -4),
+        Map.entry("IDLE", 0), Map.entry("WAITING", 1), Map.entry("DONE", 2), Map.entry("UNDONE", 3),
+        Map.entry("STUCK", 4), Map.entry("BROKEN", 5),
+        Map.entry("MIN", Integer.MIN_VALUE), Map.entry("MAX", Integer.MAX_VALUE));
     private static int calls = 0;
     private static int wrong = 0;
 
@@ -106,12 +113,11 @@ final class Runs {
         if (word.matches("-?[0-9]+")) {
             return Integer.parseInt(word);
         }
-        try {
-            return word.equals("MAX") ? Integer.MAX_VALUE
-                : word.equals("MIN") ? Integer.MIN_VALUE : SagaRuns.class.getField(word).getInt(null);
-        } catch (ReflectiveOperationException e) {
-            throw new IllegalStateException("there is no constant " + word, e);
+        Integer named = NAMED.get(word);
+        if (named == null) {
+            throw new IllegalArgumentException("there is no number " + word);
         }
+        return named;
     }
 
     /** All that can be asked of the runs without changing anything. */
